@@ -355,6 +355,12 @@ public final class TellingRows {
                 marks[v] = mark;
             }
         }
+
+        void raise(int v) {
+            if (v >= 0 && v < marks.length) {
+                marks[v]++;
+            }
+        }
     }
 
     /** The sorts of rows, and which beginnings each may have. */
@@ -655,8 +661,7 @@ public final class TellingRows {
         private int sum(int[] numbers, int n) {
             int ahead = numbers[n - 1];
             for (int i = 0; i < n - 1; i++) {
-                int sum = ahead + numbers[i];
-                marks.put(sum, marks.of(sum) + 1);
+                marks.raise(ahead + numbers[i]);
             }
             for (int next = ahead + 1; next <= GREATEST; next++) {
                 if (marks.of(next) == 1) {
@@ -667,7 +672,7 @@ public final class TellingRows {
         }
 
         private int soFar(int ahead) {
-            marks.put(ahead, marks.of(ahead) + 1);
+            marks.raise(ahead);
             return marks.of(ahead);
         }
 

@@ -13,6 +13,7 @@ public final class RowsTest {
         told();
         at();
         atEveryEnd();
+        atOneBehindAnother();
         first();
         often();
         run();
@@ -193,6 +194,7 @@ public final class RowsTest {
         row("r0,4,1,2;", 1, 2, 3, 4, 6, 8, 11, 13, 16, 18, 26, 28, 36, 38, 47, 48, 53, 57, 62, 69);
         row("r0,4,2,3;", 2, 3, 5, 7, 8, 9, 13, 14, 18, 19, 24, 25, 29, 30, 35, 36, 40);
         row("r0,5,1;", 1, 1, 2, 1, 3, 1, 4, 1, 5, 1);
+        row("r0,5,0;", 0, 1, 1, 2, 1, 3, 1, 4, 1, 5);
         row("r0,5,0,0,7;", 0, 0, 7, 1, 1, 2, 1, 3, 1, 4, 1, 5);
         row("r0,6;", 0, 0, 1, 0, 0, 1, 1, 3, 3, 0, 0, 1, 0, 0, 1, 1, 3, 3, 1, 3, 3, 4, 4, 7, 4, 4);
         row("r0,6,1;", 1, 0, 0, 1, 0, 0, 2);
@@ -236,6 +238,40 @@ public final class RowsTest {
         Check.due(11, "the last is the greatest", x.most(0, 2000, 1), fits);
         Check.due(7, "this one does not", x.at(1, 1999), 51022);
         Check.due(7, "BAD goes before NONE", x.at(0, 2000), BAD);
+        TellingRows last = Check.laid("r0,4,5,15;r1,4,8,16;");
+        Check.due(7, "60000 itself", last.at(0, 1495), 60000);
+        Check.due(7, "behind it", last.at(0, 1496), NONE);
+        Check.due(7, "60000 itself", last.at(1, 637), 60000);
+        Check.due(7, "behind it", last.at(1, 638), NONE);
+        Check.due(8, "60000 is found", last.first(1, 60000), 637);
+        Check.due(9, "60000 is there", last.often(0, 60000, 2000), 1);
+        Check.due(11, "60000 is the greatest", last.most(1, 2000, 0), 60000);
+        last.number(8);
+        last.number(16);
+        Check.due(15, "numbers of sums", last.may(), 2);
+    }
+
+    /** What one row needed must not tell in the next. */
+    private static void atOneBehindAnother() {
+        TellingRows x = new TellingRows();
+        for (int sort = 2; sort < 7; sort++) {
+            for (int next = 2; next < 7; next++) {
+                TellingRows alone = Check.laid("r0," + next + ",2,3;");
+                Check.write(x, "r0," + sort + ",1,2;r1," + next + ",2,3;");
+                Check.due(5, "lay", x.lay(), 2);
+                Check.due(3, "wipe", x.wipe(), 18);
+                x.at(0, 0);
+                for (int i = 2; i < 10; i++) {
+                    Check.due(7, "sort " + next + " behind " + sort, x.at(1, i), alone.at(0, i));
+                }
+                x.most(0, 2000, 3);
+            }
+        }
+        // this row's end has like numbers side by side
+        x = Check.laid("r0,3,1,2;r1,3,1,1;");
+        Check.due(7, "the end", x.at(0, 1998), x.at(0, 1997));
+        Check.due(7, "two ones", x.at(1, 2), 2);
+        Check.due(7, "two ones and a two", x.at(1, 3), 1);
     }
 
     private static void first() {
@@ -336,6 +372,9 @@ public final class RowsTest {
         around("r0,2,1,1;", 1, 0);
         around("r0,2,9,1,1;", 1, 1);
         around("r0,2,9,8,7,1,1;", 1, 3);
+        // no more than three periods from the tail to place 1999
+        around("r0,1,1,1,1,2,1;", 2, 1994);
+        around("r0,1,1,2,3,4,1;", 4, 1986);
         around("r0,0,1,1;", NONE, NONE);
         around("r0,3,1;", NONE, NONE);
         around("r0,0,1,3;", NONE, NONE);
