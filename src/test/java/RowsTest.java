@@ -176,29 +176,22 @@ public final class RowsTest {
         Check.due(6, "told of 1", Check.laid("r0,1,2,1;").told(0, 0), 1);
     }
 
-    private static void row(String item, int... numbers) {
-        TellingRows x = Check.laid(item);
-        for (int i = 0; i < numbers.length; i++) {
-            Check.due(7, "at(0, " + i + ") of " + item, x.at(0, i), numbers[i]);
-        }
-    }
-
     /** Rows that are well known, and some told by hand. */
     private static void at() {
-        row("r0,0,1,1;", 1, 1, 2, 3, 3, 4, 5, 5, 6, 6, 6, 8, 8, 8, 10, 9, 10, 11, 11, 12);
-        row("r0,1,1,1;", 1, 1, 2, 2, 3, 4, 4, 4, 5, 6, 7, 7, 8, 8, 8, 8, 9, 10, 11, 12);
-        row("r0,2,0;", 0, 0, 1, 0, 2, 0, 2, 2, 1, 6, 0, 5, 0, 2, 6, 5, 4, 0, 5, 3, 0, 3, 2, 9);
-        row("r0,2,5,5,5;", 5, 5, 5, 1, 0, 0, 1, 3, 0, 3, 2, 0);
-        row("r0,3,1;", 1, 1, 2, 1, 1, 2, 2, 2, 3, 1, 1, 2, 1, 1, 2, 2, 2, 3, 2, 1);
-        row("r0,3,2,3,2,3;", 2, 3, 2, 3, 2, 2, 2, 3, 1, 1, 2, 1, 1, 2, 2, 2, 3);
-        row("r0,4,1,2;", 1, 2, 3, 4, 6, 8, 11, 13, 16, 18, 26, 28, 36, 38, 47, 48, 53, 57, 62, 69);
-        row("r0,4,2,3;", 2, 3, 5, 7, 8, 9, 13, 14, 18, 19, 24, 25, 29, 30, 35, 36, 40);
-        row("r0,5,1;", 1, 1, 2, 1, 3, 1, 4, 1, 5, 1);
-        row("r0,5,0;", 0, 1, 1, 2, 1, 3, 1, 4, 1, 5);
-        row("r0,5,0,0,7;", 0, 0, 7, 1, 1, 2, 1, 3, 1, 4, 1, 5);
-        row("r0,6;", 0, 0, 1, 0, 0, 1, 1, 3, 3, 0, 0, 1, 0, 0, 1, 1, 3, 3, 1, 3, 3, 4, 4, 7, 4, 4);
-        row("r0,6,1;", 1, 0, 0, 1, 0, 0, 2);
-        row("r0,6,0,99;", 0, 99, 0, 0, 1, 0, 1);
+        Check.rowIs("r0,0,1,1;", 1, 1, 2, 3, 3, 4, 5, 5, 6, 6, 6, 8, 8, 8, 10, 9, 10, 11, 11, 12);
+        Check.rowIs("r0,1,1,1;", 1, 1, 2, 2, 3, 4, 4, 4, 5, 6, 7, 7, 8, 8, 8, 8, 9, 10, 11, 12);
+        Check.rowIs("r0,2,0;", 0, 0, 1, 0, 2, 0, 2, 2, 1, 6, 0, 5, 0, 2, 6, 5, 4, 0, 5, 3, 0, 3, 2, 9);
+        Check.rowIs("r0,2,5,5,5;", 5, 5, 5, 1, 0, 0, 1, 3, 0, 3, 2, 0);
+        Check.rowIs("r0,3,1;", 1, 1, 2, 1, 1, 2, 2, 2, 3, 1, 1, 2, 1, 1, 2, 2, 2, 3, 2, 1);
+        Check.rowIs("r0,3,2,3,2,3;", 2, 3, 2, 3, 2, 2, 2, 3, 1, 1, 2, 1, 1, 2, 2, 2, 3);
+        Check.rowIs("r0,4,1,2;", 1, 2, 3, 4, 6, 8, 11, 13, 16, 18, 26, 28, 36, 38, 47, 48, 53, 57, 62, 69);
+        Check.rowIs("r0,4,2,3;", 2, 3, 5, 7, 8, 9, 13, 14, 18, 19, 24, 25, 29, 30, 35, 36, 40);
+        Check.rowIs("r0,5,1;", 1, 1, 2, 1, 3, 1, 4, 1, 5, 1);
+        Check.rowIs("r0,5,0;", 0, 1, 1, 2, 1, 3, 1, 4, 1, 5);
+        Check.rowIs("r0,5,0,0,7;", 0, 0, 7, 1, 1, 2, 1, 3, 1, 4, 1, 5);
+        Check.rowIs("r0,6;", 0, 0, 1, 0, 0, 1, 1, 3, 3, 0, 0, 1, 0, 0, 1, 1, 3, 3, 1, 3, 3, 4, 4, 7, 4, 4);
+        Check.rowIs("r0,6,1;", 1, 0, 0, 1, 0, 0, 2);
+        Check.rowIs("r0,6,0,99;", 0, 99, 0, 0, 1, 0, 1);
         TellingRows x = Check.laid("r0,4,1,2;");
         Check.due(7, "at(0, 1999)", x.at(0, 1999), 25511);
         Check.due(7, "at(0, 2000)", x.at(0, 2000), BAD);
@@ -209,16 +202,16 @@ public final class RowsTest {
 
     /** Where rows end: ahead of place 0, behind all places so far, above 60000. */
     private static void atEveryEnd() {
-        row("r0,0,1,3;", 1, 3, NONE, NONE);
-        row("r0,0,3,1;", 3, 1, NONE);
-        row("r0,0,2,2;", 2, 2, 4, NONE);
-        row("r0,0,2,1;", 2, 1, 3, 5, NONE);
-        row("r0,0,1,2;", 1, 2, 3, 3, 4);
-        row("r0,1,9,9;", 9, 9, NONE);
-        row("r0,1,1,2;", 1, 2, 3, 4, 5, 6, 7);
-        row("r0,1,5,2,1;", 5, 2, 1, 6, NONE);
-        row("r0,1,3,1;", 3, 1, 4, NONE);
-        row("r0,1,1,3;", 1, 3, NONE);
+        Check.rowIs("r0,0,1,3;", 1, 3, NONE, NONE);
+        Check.rowIs("r0,0,3,1;", 3, 1, NONE);
+        Check.rowIs("r0,0,2,2;", 2, 2, 4, NONE);
+        Check.rowIs("r0,0,2,1;", 2, 1, 3, 5, NONE);
+        Check.rowIs("r0,0,1,2;", 1, 2, 3, 3, 4);
+        Check.rowIs("r0,1,9,9;", 9, 9, NONE);
+        Check.rowIs("r0,1,1,2;", 1, 2, 3, 4, 5, 6, 7);
+        Check.rowIs("r0,1,5,2,1;", 5, 2, 1, 6, NONE);
+        Check.rowIs("r0,1,3,1;", 3, 1, 4, NONE);
+        Check.rowIs("r0,1,1,3;", 1, 3, NONE);
         // each number is three times one of 1, 2: it ends where that is above 20000
         TellingRows x = Check.laid("r0,4,3,6;r1,4,2,4;r2,4,1,2;");
         int fits = 0;
@@ -369,31 +362,25 @@ public final class RowsTest {
     }
 
     private static void around() {
-        around("r0,2,1,1;", 1, 0);
-        around("r0,2,9,1,1;", 1, 1);
-        around("r0,2,9,8,7,1,1;", 1, 3);
+        Check.aroundIs("r0,2,1,1;", 1, 0);
+        Check.aroundIs("r0,2,9,1,1;", 1, 1);
+        Check.aroundIs("r0,2,9,8,7,1,1;", 1, 3);
         // no more than three periods from the tail to place 1999
-        around("r0,1,1,1,1,2,1;", 2, 1994);
-        around("r0,1,1,2,3,4,1;", 4, 1986);
-        around("r0,0,1,1;", NONE, NONE);
-        around("r0,3,1;", NONE, NONE);
-        around("r0,0,1,3;", NONE, NONE);
+        Check.aroundIs("r0,1,1,1,1,2,1;", 2, 1994);
+        Check.aroundIs("r0,1,1,2,3,4,1;", 4, 1986);
+        Check.aroundIs("r0,0,1,1;", NONE, NONE);
+        Check.aroundIs("r0,3,1;", NONE, NONE);
+        Check.aroundIs("r0,0,1,3;", NONE, NONE);
         // a row that ends soon goes round too where three periods stand behind its tail
-        around("r0,0,5,5,5;", 1, 0);
-        around("r0,0,5,5;", NONE, NONE);
-        around("r0,0,4,5,5,5;", 1, 1);
-        around("r0,0,9,8,9,8,9,8;", 2, 0);
-        around("r0,0,9,8,9,8,9;", NONE, NONE);
+        Check.aroundIs("r0,0,5,5,5;", 1, 0);
+        Check.aroundIs("r0,0,5,5;", NONE, NONE);
+        Check.aroundIs("r0,0,4,5,5,5;", 1, 1);
+        Check.aroundIs("r0,0,9,8,9,8,9,8;", 2, 0);
+        Check.aroundIs("r0,0,9,8,9,8,9;", NONE, NONE);
         TellingRows x = new TellingRows();
         Check.due(12, "around(0, 2)", x.around(0, 2), BAD);
         Check.due(12, "around(0, -1)", x.around(0, -1), BAD);
         Check.due(12, "around(4, 0)", x.around(4, 0), BAD);
         Check.due(12, "around(-1, 1)", x.around(-1, 1), BAD);
-    }
-
-    private static void around(String item, int period, int tail) {
-        TellingRows x = Check.laid(item);
-        Check.due(12, "around(0, 0) of " + item, x.around(0, 0), period);
-        Check.due(12, "around(0, 1) of " + item, x.around(0, 1), tail);
     }
 }
