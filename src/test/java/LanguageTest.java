@@ -16,6 +16,10 @@ public final class LanguageTest {
         {"13", "\\b(Random|Thread|File|nanoTime|currentTimeMillis)\\b"}, {"9", "while \\(true\\)|for \\(;;\\)"},
     };
 
+    private static final Pattern HEAD = Pattern.compile(
+        "( {4}| {8})(?!(if|for|while|switch)\\b)((public|private|static) )*(\\w+(\\[\\])? )?\\w+\\([^=]*\\) \\{");
+    private static final Pattern CONSTRUCTOR = Pattern.compile(" +(public )?[A-Z]\\w*\\(.*");
+
     public static void main(String[] args) throws Exception {
         String source = Files.readString(Path.of("src/main/java/TellingRows.java"));
         String code = source.replaceAll("(?s)/\\*.*?\\*/", "").replaceAll("//[^\n]*", "");
@@ -31,21 +35,29 @@ public final class LanguageTest {
         Check.end(1, 0);
     }
 
-    /** Rule 11: some sixty lines a method, seven parameters. */
+    /** Rule 11: some sixty lines a method, seven parameters; rule 12: objects are made when one is made, by no call. */
     private static void methods(List<String> lines) {
         int start = -1;
         int found = 0;
         for (int i = 0; i < lines.size(); i++) {
             String line = lines.get(i);
-            if (line.matches("( {4}| {8})(public |private |static )*\\w+(\\[\\])? ?\\w*\\([^=]*\\) \\{")) {
+            if (HEAD.matcher(line).matches()) {
+                Check.holds("rule 11: the method ahead has an end: " + line.trim(), start < 0);
+                Check.holds("rule 11: parameters of " + line.trim(), line.split(",").length <= 7);
                 start = i;
                 found++;
-                Check.holds("rule 11: parameters of " + line.trim(), line.split(",").length <= 7);
-            } else if (start >= 0 && line.matches(lines.get(start).replaceAll("\\S.*", "") + "\\}")) {
-                Check.holds("rule 11: lines of " + lines.get(start).trim(), i - start <= 60);
+            } else if (start >= 0 && line.equals(indent(lines.get(start)) + "}")) {
+                Check.holds("rule 11: lines of " + lines.get(start).trim(), i - start < 60);
                 start = -1;
+            } else if (start >= 0 && line.matches(".*\\bnew\\b.*")) {
+                Check.holds("rule 12: made by a constructor: " + line.trim(),
+                    CONSTRUCTOR.matcher(lines.get(start)).matches());
             }
         }
         Check.holds("the methods are found: " + found, found > 60);
+    }
+
+    private static String indent(String line) {
+        return line.replaceAll("\\S.*", "");
     }
 }
